@@ -29,6 +29,7 @@ public final class PromiseTest {
         promise11And12Text();
         promise13Run();
         promise14Undo();
+        promise14UndoBringsAllBack();
         promise15And16Snapshot();
         promise17Line();
         promise18InSet();
@@ -228,9 +229,11 @@ public final class PromiseTest {
         due("the reach", 4, x.helper(0, 6));
         x.access(0, 10);
         due("four fetched", 4, x.logged(0, 3));
+        x.keep();
         due("1", 4, x.setDegree(0, 1));
         due("1 is it", 1, x.helper(0, 1));
-        x.undo();
+        due("an act", 4, x.count(14));
+        due("undo", 3, x.undo());
         due("undone", 4, x.helper(0, 1));
         x = atWork();
         x.setDegree(0, 3);
@@ -709,6 +712,120 @@ public final class PromiseTest {
         due("undo", 2, x.undo());
         x.restore();
         due("restore does", 3, x.count(14));
+    }
+
+    /** All that is told of the state, and so neither of the text nor of the history. */
+    private static String told(ParoleCache x) {
+        StringBuilder all = new StringBuilder();
+        for (int i = 0; i <= 16; i++) {
+            all.append(i == 14 || i == 15 ? 0 : x.count(i)).append(' ');
+        }
+        for (int h = 0; h < 6; h++) {
+            for (int i = 0; i <= 15; i++) {
+                all.append(x.helper(h, i)).append(' ');
+                all.append(x.table(h, i / 4, i % 4)).append(' ');
+            }
+        }
+        for (int i = 0; i < 60; i++) {
+            all.append(x.logged(i / 5, i % 5)).append(' ').append(x.thrownOut(i / 5)).append(' ');
+        }
+        for (int i = 0; i < 64; i++) {
+            all.append(x.inSet(i / 8, i % 8)).append(' ').append(x.line(x.inSet(i / 8, i % 8), 1)).append(' ');
+            all.append(x.line(x.inSet(i / 8, i % 8), 2)).append(' ').append(x.line(x.thrownOut(i % 8), 5)).append(' ');
+        }
+        return all.toString();
+    }
+
+    private static void same(String where, String before, ParoleCache x) {
+        due(where + " leaves or brings back all", 1, before.equals(told(x)) ? 1 : 0);
+    }
+
+    /** Six helpers of all kinds, some at work, some on probation, with all kinds of facts. */
+    private static ParoleCache busy() {
+        ParoleCache x = new ParoleCache();
+        x.shape(2, 3);
+        for (int i = 0; i < 6; i++) {
+            x.addHelper(i % 3, 4 - i / 2, 1 + i);
+        }
+        x.walk(1, 100, 1, 12);
+        x.walk(2, 300, -2, 20);
+        x.pardon(2);
+        x.pardon(3);
+        x.walk(3, 40, 3, 9);
+        return x;
+    }
+
+    private static int act(ParoleCache x, int number) {
+        switch (number) {
+            case 0: return x.access(4, 77);
+            case 1: return x.walk(5, 600, 1, 25);
+            case 2: return x.flush();
+            case 3: return x.shape(7, 4);
+            case 4: return x.setDegree(0, 2);
+            case 5: return x.setTrial(6);
+            case 6: return x.forget(0);
+            case 7: return x.forget(1);
+            case 8: return x.run();
+            case 9: return x.restore();
+            case 10: return x.pardon(5);
+            default: return x.undo();
+        }
+    }
+
+    private static int refused(ParoleCache x, int number) {
+        switch (number) {
+            case 0: return x.access(16, 77);
+            case 1: return x.walk(5, 9990, 1, 25);
+            case 2: return x.shape(2, 3);
+            case 3: return x.shape(9, 3);
+            case 4: return x.setDegree(0, 4);
+            case 5: return x.setTrial(3);
+            case 6: return x.forget(2);
+            case 7: return x.addHelper(1, 1, 1);
+            default: return x.pardon(6);
+        }
+    }
+
+    private static void promise14UndoBringsAllBack() {
+        for (int number = 0; number <= 10; number++) {
+            ParoleCache x = busy();
+            ParoleCache y = busy();
+            y.keep();
+            y.walk(0, 5000, 7, 30);
+            typeAll(x, "a101,b102,c9");
+            typeAll(y, "a101,b102,c9");
+            if (number == 9) {
+                x.keep();
+                x.walk(9, 900, 2, 7);
+            }
+            String before = told(x);
+            due("act " + number, 1, act(x, number) > -100 ? 1 : 0);
+            due("act " + number + " is recorded", 4, x.count(14));
+            due("act " + number + " does something", 0, before.equals(told(x)) ? 1 : 0);
+            due("undo", 3, x.undo());
+            same("undo of act " + number, before, x);
+            act(y, number);
+            y.restore();
+            same("restore behind act " + number, told(busy()), y);
+        }
+        ParoleCache x = busy();
+        x.undo();
+        x.undo();
+        int left = x.count(14);
+        String before = told(x);
+        for (int number = 0; number <= 8; number++) {
+            due("refused " + number, 1, refused(x, number) <= -100001 ? 1 : 0);
+            due("refused " + number + " is not recorded", left, x.count(14));
+            same("refused " + number, before, x);
+        }
+        x.wouldHit(1, 100, 1, 30);
+        same("wouldHit", before, x);
+        x.wouldAsk(5, 1, 100, 0);
+        same("wouldAsk", before, x);
+        x.bestHelper();
+        x.keep();
+        same("keep", before, x);
+        due("not recorded", left, x.count(14));
     }
 
     private static void promise15And16Snapshot() {
