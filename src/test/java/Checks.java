@@ -2,13 +2,20 @@
 final class Checks {
     private int asked = 0;
     private int wrong = 0;
+    private String subject = "";
+
+    /** What the answers from here on are about. */
+    void about(String what) {
+        subject = what;
+    }
 
     void due(String call, long want, long got) {
         asked++;
         if (want != got) {
             wrong++;
             if (wrong <= 40) {
-                System.out.println(call + " answered " + got + ", due is " + want);
+                String place = subject.isEmpty() ? "" : "[" + subject + "] ";
+                System.out.println(place + call + " answered " + got + ", due is " + want);
             }
         }
     }

@@ -1,14 +1,5 @@
 /** Each promise of the document by its number: ordinary inputs, the edges that it names, and wrong inputs. */
-public final class PromiseTest {
-    private static final int UNKNOWN = -100001;
-    private static final int BAD = -100002;
-    private static final int FULL = -100003;
-    private static final int NOT_POSSIBLE = -100004;
-    private static final int NONE = -100005;
-    private static final int[] WRONG = {Integer.MIN_VALUE, -1, Integer.MAX_VALUE};
-
-    private static final Checks CHECKS = new Checks();
-
+public final class PromiseTest extends Answers {
     public static void main(String[] args) {
         promise1New();
         promise2Shape();
@@ -30,6 +21,7 @@ public final class PromiseTest {
         promise13Run();
         promise14Undo();
         promise14UndoBringsAllBack();
+        promise14RefusedCallsChangeNothing();
         promise15And16Snapshot();
         promise17Line();
         promise18InSet();
@@ -42,49 +34,6 @@ public final class PromiseTest {
         promise25Logged();
         promise26Count();
         CHECKS.close("PromiseTest");
-    }
-
-    private static void due(String call, int want, int got) {
-        CHECKS.due(call, want, got);
-    }
-
-    private static void typeAll(ParoleCache x, String text) {
-        x.clearText();
-        for (int i = 0; i < text.length(); i++) {
-            due("type " + i, i + 1, x.type(text.charAt(i)));
-        }
-    }
-
-    private static void counts(String where, ParoleCache x, int... wanted) {
-        for (int i = 0; i < wanted.length; i++) {
-            due(where + ": count(" + i + ")", wanted[i], x.count(i));
-        }
-    }
-
-    private static void facts(String where, ParoleCache x, int helper, int... wanted) {
-        for (int i = 0; i < wanted.length; i++) {
-            due(where + ": helper(" + helper + ", " + i + ")", wanted[i], x.helper(helper, i));
-        }
-    }
-
-    private static void row(String where, ParoleCache x, int helper, int place, int... wanted) {
-        for (int i = 0; i < wanted.length; i++) {
-            due(where + ": table(" + helper + ", " + place + ", " + i + ")", wanted[i], x.table(helper, place, i));
-        }
-    }
-
-    private static void set(String where, ParoleCache x, int set, int... lines) {
-        for (int i = 0; i < lines.length; i++) {
-            due(where + ": inSet(" + set + ", " + i + ")", lines[i], x.inSet(set, i));
-        }
-        due(where + ": inSet behind the last", NONE, x.inSet(set, lines.length));
-    }
-
-    private static void thrown(String where, ParoleCache x, int... lines) {
-        for (int i = 0; i < lines.length; i++) {
-            due(where + ": thrownOut(" + i + ")", lines[i], x.thrownOut(i));
-        }
-        due(where + ": thrownOut behind the last", NONE, x.thrownOut(lines.length));
     }
 
     private static void promise1New() {
@@ -164,23 +113,6 @@ public final class PromiseTest {
         x.walk(3, 0, 1, 20);
         due("more than are known", 20, x.flush());
         thrown("the latest 8", x, 4, 12, 5, 13, 6, 14, 7, 15);
-    }
-
-    /** One set of 2 ways; a helper of the kind 2 (degree 4, price 1) with 2 hours; 8 and 9 are in, and new. */
-    private static ParoleCache atWork() {
-        ParoleCache x = new ParoleCache();
-        x.shape(1, 2);
-        x.addHelper(2, 4, 1);
-        x.access(0, 5);
-        return x;
-    }
-
-    /** The same helper on probation with 3 lines to go; 8, which is new, and 9 are in. */
-    private static ParoleCache onProbation() {
-        ParoleCache x = atWork();
-        x.access(0, 9);
-        x.access(0, 9);
-        return x;
     }
 
     private static void promise4AddHelper() {
@@ -714,47 +646,6 @@ public final class PromiseTest {
         due("restore does", 3, x.count(14));
     }
 
-    /** All that is told of the state, and so neither of the text nor of the history. */
-    private static String told(ParoleCache x) {
-        StringBuilder all = new StringBuilder();
-        for (int i = 0; i <= 16; i++) {
-            all.append(i == 14 || i == 15 ? 0 : x.count(i)).append(' ');
-        }
-        for (int h = 0; h < 6; h++) {
-            for (int i = 0; i <= 15; i++) {
-                all.append(x.helper(h, i)).append(' ');
-                all.append(x.table(h, i / 4, i % 4)).append(' ');
-            }
-        }
-        for (int i = 0; i < 60; i++) {
-            all.append(x.logged(i / 5, i % 5)).append(' ').append(x.thrownOut(i / 5)).append(' ');
-        }
-        for (int i = 0; i < 64; i++) {
-            all.append(x.inSet(i / 8, i % 8)).append(' ').append(x.line(x.inSet(i / 8, i % 8), 1)).append(' ');
-            all.append(x.line(x.inSet(i / 8, i % 8), 2)).append(' ').append(x.line(x.thrownOut(i % 8), 5)).append(' ');
-        }
-        return all.toString();
-    }
-
-    private static void same(String where, String before, ParoleCache x) {
-        due(where + " leaves or brings back all", 1, before.equals(told(x)) ? 1 : 0);
-    }
-
-    /** Six helpers of all kinds, some at work, some on probation, with all kinds of facts. */
-    private static ParoleCache busy() {
-        ParoleCache x = new ParoleCache();
-        x.shape(2, 3);
-        for (int i = 0; i < 6; i++) {
-            x.addHelper(i % 3, 4 - i / 2, 1 + i);
-        }
-        x.walk(1, 100, 1, 12);
-        x.walk(2, 300, -2, 20);
-        x.pardon(2);
-        x.pardon(3);
-        x.walk(3, 40, 3, 9);
-        return x;
-    }
-
     private static int act(ParoleCache x, int number) {
         switch (number) {
             case 0: return x.access(4, 77);
@@ -786,46 +677,70 @@ public final class PromiseTest {
         }
     }
 
-    private static void promise14UndoBringsAllBack() {
-        for (int number = 0; number <= 10; number++) {
-            ParoleCache x = busy();
-            ParoleCache y = busy();
-            y.keep();
-            y.walk(0, 5000, 7, 30);
-            typeAll(x, "a101,b102,c9");
-            typeAll(y, "a101,b102,c9");
-            if (number == 9) {
-                x.keep();
-                x.walk(9, 900, 2, 7);
-            }
-            String before = told(x);
-            due("act " + number, 1, act(x, number) > -100 ? 1 : 0);
-            due("act " + number + " is recorded", 4, x.count(14));
-            due("act " + number + " does something", 0, before.equals(told(x)) ? 1 : 0);
-            due("undo", 3, x.undo());
-            same("undo of act " + number, before, x);
-            act(y, number);
-            y.restore();
-            same("restore behind act " + number, told(busy()), y);
-        }
+    private static ParoleCache busyWithText(int number) {
         ParoleCache x = busy();
-        x.undo();
-        x.undo();
-        int left = x.count(14);
-        String before = told(x);
-        for (int number = 0; number <= 8; number++) {
-            due("refused " + number, 1, refused(x, number) <= -100001 ? 1 : 0);
-            due("refused " + number + " is not recorded", left, x.count(14));
-            same("refused " + number, before, x);
+        typeAll(x, "a101,b102,c9");
+        if (number == 9) {
+            x.keep();
+            x.walk(9, 900, 2, 7);
         }
-        x.wouldHit(1, 100, 1, 30);
-        same("wouldHit", before, x);
-        x.wouldAsk(5, 1, 100, 0);
-        same("wouldAsk", before, x);
-        x.bestHelper();
-        x.keep();
-        same("keep", before, x);
-        due("not recorded", left, x.count(14));
+        return x;
+    }
+
+    private static void promise14UndoBringsAllBack() {
+        for (int act = 0; act <= 10; act++) {
+            int number = act;
+            Maker acted = () -> {
+                ParoleCache x = busyWithText(number);
+                due("act " + number, 1, act(x, number) > -100 ? 1 : 0);
+                due("act " + number + " is recorded", 4, x.count(14));
+                return x;
+            };
+            String before = told(() -> busyWithText(number));
+            due("act " + number + " does something", 0, before.equals(told(acted)) ? 1 : 0);
+            same("undo of act " + number, before, () -> {
+                ParoleCache x = acted.make();
+                due("undo", 3, x.undo());
+                return x;
+            });
+            same("restore behind act " + number, told(Answers::busy), () -> {
+                ParoleCache x = busy();
+                x.keep();
+                x.walk(0, 5000, 7, 30);
+                typeAll(x, "a101,b102,c9");
+                act(x, number);
+                x.restore();
+                return x;
+            });
+        }
+    }
+
+    private static void promise14RefusedCallsChangeNothing() {
+        Maker undone = () -> {
+            ParoleCache x = busy();
+            x.undo();
+            due("two left", 2, x.undo());
+            return x;
+        };
+        String before = told(undone);
+        for (int call = 0; call <= 8; call++) {
+            int number = call;
+            same("refused " + number, before, () -> {
+                ParoleCache x = undone.make();
+                due("refused " + number, 1, refused(x, number) <= -100001 ? 1 : 0);
+                due("refused " + number + " is not recorded", 2, x.count(14));
+                return x;
+            });
+        }
+        same("what is told", before, () -> {
+            ParoleCache x = undone.make();
+            x.wouldHit(1, 100, 1, 30);
+            x.wouldAsk(5, 1, 100, 0);
+            x.bestHelper();
+            x.keep();
+            due("not recorded", 2, x.count(14));
+            return x;
+        });
     }
 
     private static void promise15And16Snapshot() {
