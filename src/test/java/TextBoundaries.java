@@ -359,6 +359,8 @@ final class TextBoundaries extends Answers {
         due("no helper", 0, x.count(10));
         due("an act that restore() did not take back", 0, x.addHelper(0, 1, 1));
         facts("another helper", x, 0, 0, 1, 1, 0, 0, 0, 1);
+        x.restore();
+        facts("the helper of the snapshot in its place", x, 0, 2, 4, 9, 0, 0, 0, 4);
     }
 
     private static void errors() {
